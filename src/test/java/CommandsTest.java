@@ -162,6 +162,10 @@ final class CommandsTest {
         faultIs("allfit 0;", 0);
         faultIs("{", 0);
         faultIs("`", 0);
+        faultIs("bll;", 0);
+        faultIs("alz;", 0);
+        faultIs("allz;", 0);
+        faultIs("all;zit 0;", 4);
     }
 
     private static void faultsOfNumbers() {

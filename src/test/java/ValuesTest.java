@@ -9,6 +9,7 @@ final class ValuesTest {
         door();
         ghosts();
         ghostsUnderRules();
+        ghostsAfterBegin();
         doorRefused();
         pins();
         whole();
@@ -98,6 +99,21 @@ final class ValuesTest {
         x.setRule(2, 3);
         Check.same("14: ghosts need not differ", x.door(0, 5), 5);
         Check.same("14: codes that open need not obey", x.door(0, 8), 12);
+    }
+
+    private static void ghostsAfterBegin() {
+        MasterPins x = new MasterPins();
+        x.addKey(111, -1);
+        x.addKey(0, -1);
+        x.begin(3, 5);
+        x.addKey(1, -1);
+        x.addDoor(0);
+        x.recut(0, 2);
+        Check.same("14: the code 1 is a ghost", x.door(0, 5), 1);
+        x.recut(0, 0);
+        x.fit(0);
+        x.recut(0, 3);
+        Check.same("14: the code 0 is a ghost, whose key was of another system", x.door(0, 5), 1);
     }
 
     private static void doorRefused() {

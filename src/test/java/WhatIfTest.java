@@ -96,6 +96,12 @@ final class WhatIfTest {
         x.begin(2, 2);
         x.setRule(1, 1);
         Check.same("20: the smallest system", x.freeCodes(), 4);
+        x.begin(2, 3);
+        Check.same("20: with other depths alone", x.freeCodes(), 9);
+        x.begin(3, 3);
+        Check.same("20: with other chambers alone", x.freeCodes(), 27);
+        x.undo();
+        Check.same("20: after undo", x.freeCodes(), 9);
         MasterPins full = new MasterPins();
         for (int code = 0; code < 16; code++) {
             full.addKey(code / 4 * 100 + code % 4, -1);
@@ -153,6 +159,8 @@ final class WhatIfTest {
 
     private static void betterCodeNone() {
         MasterPins x = new MasterPins();
+        x.addKey(1, -1);
+        Check.same("21: the code of zeros alone", x.betterCode(0), 0);
         x.begin(2, 2);
         x.addKey(0, -1);
         x.addKey(1, -1);
