@@ -203,18 +203,6 @@ final class RandomRunsTest {
     }
 
     private void compare(String call, Check.Call got, Check.Call due) {
-        Check.same("run " + run + ": " + call, outcome(got), outcome(due));
-    }
-
-    /** An answer, or a number far off for each exception. */
-    private static long outcome(Check.Call call) {
-        try {
-            return call.answer();
-        } catch (RuntimeException e) {
-            Class<?> thrown = e.getClass();
-            return thrown == Check.INDEX ? Long.MIN_VALUE
-                    : thrown == Check.ARGUMENT ? Long.MIN_VALUE + 1
-                    : thrown == Check.STATE ? Long.MIN_VALUE + 2 : Long.MIN_VALUE + 3;
-        }
+        Check.same("run " + run + ": " + call, Check.outcome(got), Check.outcome(due));
     }
 }
