@@ -1288,10 +1288,10 @@ public final class MasterPins {
 
         int bestOtherCode(int key) {
             int best = NONE;
-            int leastCost = Integer.MAX_VALUE;
+            int leastCost = 0;
             for (int place = 0; place < lawful.count; place++) {
                 int cost = costOfChange(key, lawful.cutsAt(place));
-                if (cost < leastCost && isBetter(key, lawful.cutsAt(place))) {
+                if ((best == NONE || cost < leastCost) && isBetter(key, lawful.cutsAt(place))) {
                     best = lawful.code(place);
                     leastCost = cost;
                 }

@@ -286,6 +286,10 @@ final class EdgesOfWhatIf {
         four.addKey(4550, NONE);
         // In chamber 0 not 4, in 1 and 2 not 5, in 3 not 0.
         Check.same("one of four, apart from another in all", four.betterCode(0), 23);
+        MasterPins flat = Systems.withKeys(4, 6, 5, 0);
+        flat.setRule(0, 0);
+        // 5555 differs by 15 in three chambers, 1111 by 7 in four.
+        Check.same("three chambers, by far", flat.betterCode(0), 5555);
     }
 
     private static void leastSum() {
@@ -309,6 +313,9 @@ final class EdgesOfWhatIf {
         Check.same("the least sum of two chambers", sums.betterCode(0), 12);
         sums.addKey(12, NONE);
         Check.same("the next one of this sum", sums.betterCode(0), 21);
+        MasterPins far = Systems.withKeys(4, 6, 0, 1111, 2222, 3333, 4444);
+        far.setRule(0, 0);
+        Check.same("the farthest one that there is", far.betterCode(0), 5555);
     }
 
     private static void lowestOne() {
